@@ -464,10 +464,10 @@ public final class Transversary {
             return trees.width(asked, points.alive());
         }
         trees.takeOffEars(asked);
-        if (what == 1) {
-            return trees.steps();
+        if (what == 0) {
+            return trees.howManyLeft() == 0 ? 1 : 0;
         }
-        return what == 2 ? trees.howManyLeft() : trees.howManyLeft() == 0 ? 1 : 0;
+        return what == 1 ? trees.steps() : trees.howManyLeft();
     }
 
     private int tellChains(Sets asked, int what) {
@@ -504,8 +504,9 @@ public final class Transversary {
         if (prices.under() == NONE) {
             return true;
         }
-        return tellCover(asked, 3) * prices.under() <= prices.above()
-                && prices.above() <= tellCover(asked, 0) * prices.under();
+        int packing = covers.greatestPacking(asked, points.alive());
+        int weight = points.weightTogether(covers.lightestNet(asked, points, 0));
+        return packing * prices.under() <= prices.above() && prices.above() <= weight * prices.under();
     }
 
     // ---- the checksum
@@ -709,7 +710,7 @@ public final class Transversary {
         }
 
         void takeOut(int set) {
-            if (!holds(set)) {
+            if (set < 0 || set >= isHeld.length || !isHeld[set]) {
                 return;
             }
             isHeld[set] = false;
@@ -1174,7 +1175,7 @@ public final class Transversary {
         private void climb() {
             for (int turn = 0; turn < MOST_TURNS; turn++) {
                 int column = entering();
-                int row = column == NONE ? NONE : leaving(column);
+                int row = leaving(column);
                 if (row == NONE) {
                     return;
                 }
@@ -1193,6 +1194,9 @@ public final class Transversary {
         }
 
         private int leaving(int column) {
+            if (column < 0 || column >= LIMIT) {
+                return NONE;
+            }
             int best = NONE;
             for (int row = 0; row < MOST_POINTS; row++) {
                 if (table[row][column] > 0 && (best == NONE || isTighter(row, best, column))) {
@@ -1209,6 +1213,9 @@ public final class Transversary {
         }
 
         private void pivot(int row, int column) {
+            if (row < 0 || row >= MOST_POINTS || column < 0 || column >= LIMIT) {
+                return;
+            }
             long pivot = table[row][column];
             for (int other = 0; other <= MOST_POINTS; other++) {
                 long factor = table[other][column];

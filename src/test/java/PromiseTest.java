@@ -719,6 +719,7 @@ public final class PromiseTest {
         due("resample(0, 0) of nothing to do", of(2, 3).resample(0, 0), 1);
         due("resample(0, 0) that takes 6 once", of(3, 3, 6).resample(0, 0), 128 + 5);
         due("resample(0, 5) of no end", of(3, 3, 5, 6).resample(0, 5), NONE);
+        due("resample(0, 8) that takes just 60", of(6, 41, 52, 18, 24, 42, 11).resample(0, 8), 60 * 128 + 14);
         due("resample(0, 0) without PARTS", of(4).resample(0, 0), 1);
         due("resample(0, 0) of small PARTS", of(4, 0, 1, 2).resample(0, 0), 1);
         Transversary y = of(3, 7);
