@@ -5,19 +5,7 @@ import java.util.Set;
 import java.util.TreeSet;
 
 /** Each promise by answers that were found by hand: what is usual, the edges, and what is wrong. */
-public final class PromiseTest {
-    private static final Class<?> INDEX = IndexOutOfBoundsException.class;
-    private static final Class<?> ARGUMENT = IllegalArgumentException.class;
-    private static final Class<?> STATE = IllegalStateException.class;
-    private static final int NONE = -1;
-    private static final int NOT_MADE = -2;
-    private static int wrong = 0;
-    private static String promise = "";
-
-    private interface Call {
-        long run();
-    }
-
+public final class PromiseTest extends Checks {
     public static void main(String[] args) {
         pointsAndFamilies();
         familiesOutOfOthers();
@@ -25,61 +13,7 @@ public final class PromiseTest {
         flowersAndSamples();
         signsColoursTrees();
         chainsHolesFieldsTests();
-        System.out.println(wrong == 0 ? "PromiseTest: all answers are as due"
-                : "PromiseTest: " + wrong + " answers are not as due");
-        if (wrong != 0) {
-            System.exit(1);
-        }
-    }
-
-    private static void due(String call, long got, long want) {
-        if (got != want) {
-            wrong++;
-            System.out.println(promise + ": " + call + " answered " + got + ", due is " + want);
-        }
-    }
-
-    private static void dueText(String call, String got, String want) {
-        if (!want.equals(got)) {
-            wrong++;
-            System.out.println(promise + ": " + call + " answered " + got + ", due is " + want);
-        }
-    }
-
-    private static void dueThrow(String call, Class<?> want, Call run) {
-        String got;
-        try {
-            got = String.valueOf(run.run());
-        } catch (RuntimeException e) {
-            got = e.getClass() == want ? null : e.toString();
-        }
-        if (got != null) {
-            wrong++;
-            System.out.println(promise + ": " + call + " answered " + got + ", due is a " + want);
-        }
-    }
-
-    private static Transversary of(int points, int... sets) {
-        Transversary x = new Transversary();
-        x.ground(points);
-        tell(x, sets);
-        return x;
-    }
-
-    private static int tell(Transversary x, int... sets) {
-        int family = x.family();
-        for (int set : sets) {
-            x.add(family, set);
-        }
-        return family;
-    }
-
-    private static String partsOf(Transversary x, int family) {
-        StringBuilder text = new StringBuilder();
-        for (int nth = 0; x.part(family, nth) != NONE; nth++) {
-            text.append(nth == 0 ? "" : " ").append(x.part(family, nth));
-        }
-        return text.toString();
+        finish("PromiseTest");
     }
 
     private static void pointsAndFamilies() {
@@ -922,13 +856,5 @@ public final class PromiseTest {
         due("digest() again", x.digest(), before);
         x.weigh(4, 2);
         due("digest() with another WEIGHT", x.digest() == before ? 1 : 0, 0);
-    }
-
-    private static long digestOf(long... numbers) {
-        long d = 58272;
-        for (long number : numbers) {
-            d = d * 31 + number;
-        }
-        return d;
     }
 }

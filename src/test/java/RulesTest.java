@@ -130,6 +130,7 @@ public final class RulesTest {
             for (String word : refused) {
                 must(!code.contains(word), "line " + (i + 1) + ": " + word);
             }
+            thrownAndMade(code, "line " + (i + 1));
             must(line.chars().allMatch(sign -> sign >= 32 && sign < 127), "line " + (i + 1) + ": another sign");
             if (code.matches(" {4,8}(public|private|[a-zA-Z]).*\\) .*\\{") || code.matches(" {4}public .*\\(.*")) {
                 methodStart = i;
@@ -139,6 +140,19 @@ public final class RulesTest {
                 methodStart = -1;
             }
         }
+    }
+
+    /** What is thrown is one of the document's exceptions with a written text; rows are made with their object. */
+    private static void thrownAndMade(String code, String place) {
+        String thrown = "throw new (IndexOutOfBounds|IllegalArgument|IllegalState)Exception\\(\"[^\"]*\"\\);";
+        must(!code.contains("throw ") || code.strip().matches(thrown), place + ": rule 6, what is thrown");
+        boolean isOfField = code.matches(" {4,8}private final \\S+ \\w+ = new .*");
+        boolean isOnce = code.contains("families[family] = new Sets();") || code.contains("= new StringBuilder();");
+        boolean isMade = code.contains("new ") && !code.contains("throw ");
+        must(!isMade || isOfField || isOnce, place + ": rule 12, what is made");
+        must(!code.contains("while (true)") && !code.contains("for (;;)"), place + ": rule 9, a loop without an end");
+        String withoutTexts = code.replaceAll("\"[^\"]*\"", "\"\"");
+        must(!withoutTexts.matches(".*\"\\s*\\+.*|.*\\+\\s*\".*"), place + ": rule 10, texts are joined by +");
     }
 
     /** All calls of a run live in one room: what an object does behind its making leaves nothing there. */
