@@ -558,6 +558,8 @@ public final class EdgeTest extends Checks {
         dueMade("settle of what is settled", () -> of(4, 3, 5, 6), x -> x.settle(0), "3 5 6");
         dueMade("settle of one PART at the end", () -> of(7, 112), x -> x.settle(0), "7");
         dueMade("settle in its order", () -> of(4, 6, 9), x -> x.settle(0), "3 5");
+        dueMade("settle by rising j", () -> of(4, 3, 5, 10), x -> x.settle(0), "3 5 9");
+        dueMade("settle by rising i", () -> of(4, 3, 6, 12), x -> x.settle(0), "3 5 9");
         Transversary x = of(3, 4, 6);
         x.die(0, true);
         x.die(1, true);
@@ -891,6 +893,7 @@ public final class EdgeTest extends Checks {
         dueRow("collapse of two twos", of(4, 3, 12), (y, what) -> y.collapse(0, what), 2, 2);
         Transversary tail = of(4, 3, 6, 10, 12);
         dueRow("collapse of a triangle and a way to 0", tail, (y, what) -> y.collapse(0, what), 1, 6);
+        dueRow("collapse of the smallest FACE first", of(4, 3, 6, 13), (y, what) -> y.collapse(0, what), 1, 8);
         promise = "42 rank";
         due("rank(0, 2) of singles", singles.rank(0, 2), 7);
         due("rank(0, 3) of a lone POINT at the end", of(7, 64).rank(0, 3), 1);
