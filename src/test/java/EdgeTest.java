@@ -41,6 +41,7 @@ public final class EdgeTest extends Checks {
         sound();
         checksums();
         manyCalls();
+        exampleOfReadme();
         finish("EdgeTest");
     }
 
@@ -715,6 +716,7 @@ public final class EdgeTest extends Checks {
         dueRow("flower of the HEART alone", of(3, 7), (y, what) -> y.flower(0, what), 1, 0);
         dueRow("flower of two that are nested", of(3, 1, 7), (y, what) -> y.flower(0, what), 2, 1);
         dueRow("flower of several HEARTS", of(4, 5, 6, 9, 10), (y, what) -> y.flower(0, what), 2, 0);
+        dueRow("flower of a later HEART with more PARTS", of(4, 3, 5, 7, 8), (y, what) -> y.flower(0, what), 2, 0);
         dueRow("flower at the end", of(7, 65, 66, 68), (y, what) -> y.flower(0, what), 3, 64);
         promise = "27 rich";
         Transversary x = ground(7);
@@ -1066,5 +1068,34 @@ public final class EdgeTest extends Checks {
         for (int call = 203; call <= 512; call++) {
             due("digest(), call " + call, y.digest(), digest);
         }
+    }
+
+    /** Each answer that README.md tells of its example. */
+    private static void exampleOfReadme() {
+        promise = "README.md";
+        Transversary x = new Transversary();
+        due("ground(5)", x.ground(5), 32);
+        int ring = x.family();
+        due("family()", ring, 0);
+        int[] sets = {0b00011, 0b00110, 0b01100, 0b11000, 0b10001};
+        int[] blockers = {2, 2, 3, 4, 5};
+        for (int nth = 0; nth < sets.length; nth++) {
+            due("add(ring, " + sets[nth] + ")", x.add(ring, sets[nth]), blockers[nth]);
+        }
+        duePrice("the ring", x, 5, 2);
+        due("cover(ring, 0)", x.cover(ring, 0), 3);
+        due("cover(ring, 1)", x.cover(ring, 1), 11);
+        due("ring(ring, false)", x.ring(ring, false), 31);
+        due("blocker(ring)", x.blocker(ring), 1);
+        due("dual(ring, 1)", x.dual(ring, 1), NONE);
+        due("die(4, true)", x.die(4, true), 4);
+        due("part(ring, 0)", x.part(ring, 0), 1);
+        due("ring(ring, false) with a DEAD POINT", x.ring(ring, false), NONE);
+        dueThrow("add(ring, 32)", ARGUMENT, () -> x.add(ring, 32));
+        dueThrow("part(2, 0)", INDEX, () -> x.part(2, 0));
+        for (int family = 2; family < 5; family++) {
+            due("turn(ring)", x.turn(ring), family);
+        }
+        due("turn(ring) with 5 FAMILIES", x.turn(ring), NOT_MADE);
     }
 }

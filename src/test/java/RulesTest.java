@@ -9,10 +9,15 @@ import java.nio.file.Files;
 import java.nio.file.Path;
 import java.util.ArrayList;
 import java.util.Arrays;
+import java.util.HashSet;
 import java.util.List;
+import java.util.Map;
 import java.util.Random;
 import java.util.Set;
+import java.util.TreeMap;
 import java.util.TreeSet;
+import java.util.regex.Matcher;
+import java.util.regex.Pattern;
 
 /**
  * What shared/LANGUAGE.md asks and can be seen from outside: the face, the shape of
@@ -22,12 +27,14 @@ public final class RulesTest {
     private static final Path SOURCE = Path.of("src/main/java/Transversary.java");
     private static final Path DOCUMENT = Path.of("../shared/DOC.md");
     private static final int MOST_BYTES = 1 << 16;
+    private static final int MOST_DEEP = 8;
     private static int wrong = 0;
 
     public static void main(String[] args) throws IOException {
         face();
         shapes();
         words();
+        calls();
         room();
         System.out.println(wrong == 0 ? "RulesTest: all rules are kept" : "RulesTest: " + wrong + " rules are broken");
         if (wrong != 0) {
@@ -153,6 +160,40 @@ public final class RulesTest {
         must(!code.contains("while (true)") && !code.contains("for (;;)"), place + ": rule 9, a loop without an end");
         String withoutTexts = code.replaceAll("\"[^\"]*\"", "\"\"");
         must(!withoutTexts.matches(".*\"\\s*\\+.*|.*\\+\\s*\".*"), place + ": rule 10, texts are joined by +");
+    }
+
+    /** Methods of one name are taken for one, so that no way of calls is overlooked. */
+    private static void calls() throws IOException {
+        String text = Files.readString(SOURCE).replaceAll("\"[^\"]*\"", "").replaceAll("(?s)/\\*.*?\\*/|//[^\n]*", "");
+        Matcher head = Pattern.compile("(?m)^ {4}(?: {4})?(?:(?:public|private|static) )*[\\w\\[\\]]+ (\\w+)"
+                + "\\([^)]*\\)[^;{}]*\\{").matcher(text);
+        Map<String, StringBuilder> bodies = new TreeMap<>();
+        while (head.find()) {
+            int indent = text.indexOf(text.substring(head.start()).strip().charAt(0), head.start()) - head.start();
+            int end = text.indexOf("\n" + " ".repeat(indent) + "}", head.end());
+            bodies.computeIfAbsent(head.group(1), name -> new StringBuilder()).append(text, head.end(), end);
+        }
+        must(bodies.size() > 150, "rule 11: only " + bodies.size() + " methods are found");
+        for (String name : bodies.keySet()) {
+            int deep = deepFrom(name, bodies, new HashSet<>());
+            must(deep <= MOST_DEEP, "rule 11: calls from " + name + " go " + deep + " deep");
+        }
+    }
+
+    private static int deepFrom(String name, Map<String, StringBuilder> bodies, Set<String> open) {
+        if (!open.add(name)) {
+            must(false, "rule 8: " + name + " calls itself by " + open);
+            return 0;
+        }
+        int deepest = 0;
+        Matcher call = Pattern.compile("(\\w+)\\(").matcher(bodies.get(name));
+        while (call.find()) {
+            if (bodies.containsKey(call.group(1))) {
+                deepest = Math.max(deepest, deepFrom(call.group(1), bodies, open));
+            }
+        }
+        open.remove(name);
+        return 1 + deepest;
     }
 
     /** All calls of a run live in one room: what an object does behind its making leaves nothing there. */
